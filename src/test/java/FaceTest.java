@@ -1,0 +1,102 @@
+import java.io.IOException;
+import java.lang.reflect.Constructor;
+import java.lang.reflect.Executable;
+import java.lang.reflect.Field;
+import java.lang.reflect.Method;
+import java.lang.reflect.Modifier;
+import java.nio.file.Files;
+import java.nio.file.Path;
+import java.util.ArrayList;
+import java.util.Arrays;
+import java.util.List;
+import java.util.TreeSet;
+
+/** The public face and the rules of the language, as far as they can be looked up. */
+final class FaceTest {
+    private static final String INDEX = "IndexOutOfBoundsException";
+    private static final String ARGUMENT = "IllegalArgumentException";
+    private static final String STATE = "IllegalStateException";
+
+    private FaceTest() {
+    }
+
+    static void constantsHaveTheirValues() {
+        Check.due("NONE", -1, Politecrawl.NONE);
+        Check.due("UNCHANGED", 0, Politecrawl.UNCHANGED);
+        Check.due("CHANGED", 1, Politecrawl.CHANGED);
+        Check.due("FAILED", 2, Politecrawl.FAILED);
+        Check.due("GONE", 3, Politecrawl.GONE);
+    }
+
+    static void faceIsTheDocuments() {
+        TreeSet<String> due = new TreeSet<>(Arrays.asList(
+            "Politecrawl()",
+            "int type(char) " + ARGUMENT + " " + STATE,
+            "int clearAddress()", "int segments()", "boolean isTrap()",
+            "int setRest(int,int) " + INDEX + " " + ARGUMENT,
+            "void setPaces(int,int) " + ARGUMENT,
+            "int setBudget(int) " + ARGUMENT,
+            "int failures(int) " + INDEX, "int openFrom(int) " + INDEX,
+            "int find(int,int) " + INDEX + " " + ARGUMENT + " " + STATE,
+            "int setRank(int,int) " + INDEX + " " + ARGUMENT,
+            "int pages()", "int dueAt(int) " + INDEX, "int visits(int) " + INDEX, "int changes(int) " + INDEX,
+            "boolean mayVisit(int) " + INDEX, "int next()", "int nextByScan()",
+            "int visit(int,int) " + INDEX + " " + ARGUMENT + " " + STATE,
+            "int pass(int) " + ARGUMENT + " " + STATE,
+            "int now()", "int budgetLeft()", "int waiting()",
+            "int share(int,int) " + INDEX + " " + ARGUMENT));
+        TreeSet<String> got = new TreeSet<>();
+        for (Constructor<?> made : Politecrawl.class.getDeclaredConstructors()) {
+            got.add(signature("", "Politecrawl", made));
+        }
+        for (Method method : Politecrawl.class.getDeclaredMethods()) {
+            if (!Modifier.isPrivate(method.getModifiers())) {
+                got.add(signature(method.getReturnType() + " ", method.getName(), method));
+            }
+        }
+        Check.holds("the face is " + due + ", not " + got, due.equals(got));
+        Check.holds("final", Modifier.isFinal(Politecrawl.class.getModifiers()));
+    }
+
+    static void nothingElseIsSeen() {
+        TreeSet<String> publicMethods = new TreeSet<>();
+        for (Method method : Politecrawl.class.getDeclaredMethods()) {
+            if (Modifier.isPublic(method.getModifiers())) {
+                publicMethods.add(method.getName());
+            }
+        }
+        for (Method method : Politecrawl.class.getDeclaredMethods()) {
+            boolean mine = Modifier.isPrivate(method.getModifiers());
+            Check.fails(method + " has a public name", mine && publicMethods.contains(method.getName()));
+        }
+        List<String> seen = new ArrayList<>();
+        for (Field field : Politecrawl.class.getDeclaredFields()) {
+            if (!Modifier.isPrivate(field.getModifiers())) {
+                Check.holds(field + " is a constant", (field.getModifiers() & Modifier.FINAL) != 0);
+                seen.add(field.getName());
+            }
+        }
+        Check.holds("five constants", seen.size() == 5);
+    }
+
+    static void sourceKeepsToTheLanguage() throws IOException {
+        String source = Files.readString(Path.of("src/main/java/Politecrawl.java"));
+        Check.fails("a package line", source.contains("package "));
+        for (String word : new String[] {"->", "::", "catch", "finally", "synchronized", "assert ", "import ", "Exact",
+            "equals(", "hashCode", "toString", "float", "double", "System.", "Object", "static {", "throws Runtime"}) {
+            Check.fails(word + " in the source", source.contains(word));
+        }
+    }
+
+    private static String signature(String type, String name, Executable member) {
+        StringBuilder text = new StringBuilder(type).append(name).append('(');
+        for (Class<?> parameter : member.getParameterTypes()) {
+            text.append(text.charAt(text.length() - 1) == '(' ? "" : ",").append(parameter);
+        }
+        text.append(')');
+        for (Class<?> thrown : member.getExceptionTypes()) {
+            text.append(' ').append(thrown.getSimpleName());
+        }
+        return text.toString();
+    }
+}
