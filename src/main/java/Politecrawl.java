@@ -526,7 +526,7 @@ public final class Politecrawl {
             return gainAbove() * other.gainBelow() > other.gainAbove() * gainBelow();
         }
 
-        // From x to x + 1 visits the worth grows by (rank + 1) * (changes + 1) / ((x + changes + 1) * (x + changes + 2)).
+        // (rank + 1) * (x / (x + c + 1)) grows from x to x + 1 by (rank + 1) * (c + 1) / ((x + c + 1) * (x + c + 2)).
         private long gainAbove() {
             return (rank + 1L) * (changes + 1L);
         }

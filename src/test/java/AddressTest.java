@@ -112,6 +112,7 @@ final class AddressTest {
         Check.holds("a//a//a", Make.typed("a//a//a").isTrap());
         Check.fails("a/a", Make.typed("a/a").isTrap());
         Check.fails("a/a/b/a", Make.typed("a/a/b/a").isTrap());
+        Check.fails("a/a/b/c/c", Make.typed("a/a/b/c/c").isTrap());
         Check.fails("aaa", Make.typed("aaa").isTrap());
         Check.fails("a/a/ab", Make.typed("a/a/ab").isTrap());
         Check.fails("ab/a/a", Make.typed("ab/a/a").isTrap());

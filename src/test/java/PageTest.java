@@ -22,6 +22,14 @@ final class PageTest {
         Check.due("pages", 7, crawl.pages());
     }
 
+    static void promise11SlashesAtTheEndsCount() {
+        Politecrawl crawl = new Politecrawl();
+        String[] addresses = {"a//", "a/", "a", "/a", "//a", "//", "/", ""};
+        for (int page = 0; page < addresses.length; page++) {
+            Check.due("find", page, Make.page(crawl, 3, 1, addresses[page]));
+        }
+    }
+
     static void promise11AddressesAreComparedWhole() {
         Politecrawl crawl = new Politecrawl();
         String long29 = "abcdefghijklmnopqrstuvwxyzabc";

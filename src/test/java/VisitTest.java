@@ -248,6 +248,22 @@ final class VisitTest {
         Check.due("waiting", 0, crawl.waiting());
     }
 
+    static void promise24WaitsForTheFirstOfAll() {
+        Politecrawl crawl = new Politecrawl();
+        int[] rests = {40, 7, 25};
+        for (int host = 0; host < rests.length; host++) {
+            crawl.setRest(host, rests[host]);
+            crawl.visit(Make.page(crawl, host, 0, "a"), Politecrawl.GONE);
+            Make.page(crawl, host, host, "b");
+        }
+        Check.due("waiting", 7, crawl.waiting());
+        Make.page(crawl, 1, 9, "a/a/a");
+        crawl.pass(6);
+        Check.due("waiting", 1, crawl.waiting());
+        crawl.pass(1);
+        Check.due("waiting", 0, crawl.waiting());
+    }
+
     static void promise24WaitsForTheBudget() {
         Politecrawl crawl = Make.allPages();
         crawl.pass(30);
