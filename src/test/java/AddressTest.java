@@ -55,19 +55,6 @@ final class AddressTest {
         }
     }
 
-    static void promise2TypeEndsAtThirtyCharacters() {
-        Politecrawl crawl = new Politecrawl();
-        for (int i = 1; i <= 30; i++) {
-            Check.due("type", i, crawl.type(i % 2 == 0 ? '/' : 'k'));
-        }
-        Check.throwsState("type('a')", () -> crawl.type('a'));
-        Check.throwsState("type('/')", () -> crawl.type('/'));
-        Check.throwsArgument("type('A') comes first", () -> crawl.type('A'));
-        Check.due("segments", 15, crawl.segments());
-        Check.due("clearAddress", 30, crawl.clearAddress());
-        Check.due("type", 1, crawl.type('a'));
-    }
-
     static void promise3ClearEmpties() {
         Politecrawl crawl = Make.typed("a/a/a");
         Check.due("clearAddress", 5, crawl.clearAddress());
@@ -76,18 +63,6 @@ final class AddressTest {
         Check.fails("isTrap", crawl.isTrap());
         Check.due("type", 1, crawl.type('a'));
         Check.due("segments", 1, crawl.segments());
-    }
-
-    static void promise3OnlyTypeChangesTheBufferOtherwise() {
-        Politecrawl crawl = Make.onePage();
-        crawl.next();
-        crawl.visit(0, Politecrawl.GONE);
-        crawl.pass(100);
-        crawl.find(3, 3);
-        crawl.share(0, 3);
-        crawl.setRank(0, 3);
-        Check.due("type", 2, crawl.type('b'));
-        Check.due("clearAddress", 2, crawl.clearAddress());
     }
 
     static void promise4SegmentsAreLongestPartsWithoutSlashes() {
@@ -138,11 +113,6 @@ final class AddressTest {
         Check.holds("behind others", Make.typed("q/r/a/b/c/a/b/c/a/b/c").isTrap());
         Check.fails("all but the last", Make.typed("a/b/c/a/b/c/a/b").isTrap());
         Check.fails("another at last", Make.typed("a/b/c/a/b/c/a/b/d").isTrap());
-    }
-
-    static void promise5LongerRowsAreNoTraps() {
-        Check.fails("a/b/c/d thrice", Make.typed("a/b/c/d/a/b/c/d/a/b/c/d").isTrap());
-        Check.fails("a/b/c/d/e thrice", Make.typed("a/b/c/d/e/a/b/c/d/e/a/b/c/d/e").isTrap());
     }
 
     static void promise5TypingOnMayUndoATrap() {

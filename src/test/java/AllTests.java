@@ -4,8 +4,9 @@ import java.lang.reflect.Modifier;
 
 /** Runs each test method of each test class, says which fail, and ends with exit code 1 if one does. */
 public final class AllTests {
-    private static final Class<?>[] TESTS = {FaceTest.class, AddressTest.class, HostTest.class, PageTest.class,
-        VisitTest.class, ShareTest.class, RandomRunsTest.class};
+    static final Class<?>[] TESTS = {FaceTest.class, AddressTest.class, AddressBoundsTest.class,
+        HostTest.class, HostBoundsTest.class, PageTest.class, PageBoundsTest.class, VisitTest.class,
+        VisitBoundsTest.class, ShareTest.class, ShareBoundsTest.class, RandomRunsTest.class};
 
     private AllTests() {
     }

@@ -25,6 +25,13 @@ final class Check {
         }
     }
 
+    /** What each page, from page 0 on, is due to get of some visits. */
+    static void sharesAre(Politecrawl crawl, int visits, int... due) {
+        for (int page = 0; page < due.length; page++) {
+            due("share(" + page + ", " + visits + ")", due[page], crawl.share(page, visits));
+        }
+    }
+
     static void throwsIndex(String call, Call made) {
         throwsOnly(call, IndexOutOfBoundsException.class, made);
     }

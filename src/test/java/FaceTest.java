@@ -79,6 +79,19 @@ final class FaceTest {
         Check.holds("five constants", seen.size() == 5);
     }
 
+    static void everyPromiseHasATestOfItsBounds() {
+        for (int promise = 1; promise <= 25; promise++) {
+            String named = "promise" + promise + "[A-Z].*";
+            boolean found = false;
+            for (Class<?> tests : AllTests.TESTS) {
+                for (Method test : tests.getDeclaredMethods()) {
+                    found |= tests.getName().endsWith("BoundsTest") && test.getName().matches(named);
+                }
+            }
+            Check.holds("a test of the bounds of promise " + promise, found);
+        }
+    }
+
     static void sourceKeepsToTheLanguage() throws IOException {
         String source = Files.readString(Path.of("src/main/java/Politecrawl.java"));
         Check.fails("a package line", source.contains("package "));

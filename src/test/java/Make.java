@@ -1,5 +1,8 @@
 /** Objects in the states that the tests begin with. */
 final class Make {
+    /** So many pages has busy(). */
+    static final int BUSY_PAGES = 7;
+
     private Make() {
     }
 
@@ -42,25 +45,38 @@ final class Make {
     }
 
     static void passTo(Politecrawl crawl, int tick) {
-        while (crawl.now() < tick) {
-            crawl.pass(Math.min(1000, tick - crawl.now()));
+        int left = tick - crawl.now();
+        while (left > 0) {
+            int ticks = Math.min(1000, left);
+            crawl.pass(ticks);
+            left -= ticks;
         }
     }
 
-    /** Everything that can be asked of a scheduler, in one text. */
-    static String stateOf(Politecrawl crawl) {
-        StringBuilder state = new StringBuilder();
-        state.append(crawl.segments()).append(' ').append(crawl.isTrap()).append(' ').append(crawl.now());
-        state.append(" left ").append(crawl.budgetLeft()).append(" next ").append(crawl.next());
-        state.append(' ').append(crawl.nextByScan()).append(" waiting ").append(crawl.waiting());
-        for (int host = 0; host < 6; host++) {
-            state.append(" host ").append(crawl.failures(host)).append(' ').append(crawl.openFrom(host));
-        }
-        for (int page = 0; page < crawl.pages(); page++) {
-            state.append(" page ").append(crawl.dueAt(page)).append(' ').append(crawl.visits(page));
-            state.append(' ').append(crawl.changes(page)).append(' ').append(crawl.mayVisit(page));
-            state.append(' ').append(crawl.share(page, 7)).append(' ').append(crawl.share(page, 100));
-        }
-        return state.toString();
+    /**
+     * A scheduler in the middle of its work at tick 133: nothing is as at first, pages of all kinds are there, and the
+     * buffer still holds "x/yz", the address of page 6.
+     */
+    static Politecrawl busy() {
+        Politecrawl crawl = new Politecrawl();
+        crawl.setRest(2, 9);
+        crawl.setPaces(7, 40);
+        crawl.setBudget(6);
+        page(crawl, 0, 5, "a");
+        page(crawl, 1, 9, "a");
+        page(crawl, 2, 0, "b/b/b");
+        page(crawl, 2, 3, "c");
+        page(crawl, 3, 3, "d");
+        page(crawl, 5, 8, "");
+        crawl.visit(0, Politecrawl.CHANGED);
+        crawl.visit(1, Politecrawl.FAILED);
+        crawl.visit(3, Politecrawl.UNCHANGED);
+        crawl.visit(4, Politecrawl.GONE);
+        crawl.pass(130);
+        crawl.visit(0, Politecrawl.UNCHANGED);
+        crawl.visit(5, Politecrawl.FAILED);
+        crawl.pass(3);
+        page(crawl, 4, 6, "x/yz");
+        return crawl;
     }
 }

@@ -1,8 +1,5 @@
 /** Promises 11 to 17: pages. */
 final class PageTest {
-    private static final int LEAST = Integer.MIN_VALUE;
-    private static final int MOST = Integer.MAX_VALUE;
-
     private PageTest() {
     }
 
@@ -71,32 +68,6 @@ final class PageTest {
         Check.holds("mayVisit", crawl.mayVisit(0));
     }
 
-    static void promise11ThirtyPages() {
-        Politecrawl crawl = Make.allPages();
-        Check.due("pages", 30, crawl.pages());
-        Make.address(crawl, "new");
-        Check.throwsState("find(0, 0)", () -> crawl.find(0, 0));
-        Check.throwsIndex("find(6, 10) comes first", () -> crawl.find(6, 10));
-        Check.throwsArgument("find(0, 10) comes first", () -> crawl.find(0, 10));
-        Check.due("pages", 30, crawl.pages());
-        Check.due("one that is there", 29, Make.page(crawl, 29 % 6, 0, "zd"));
-        Check.due("one that is there", 0, Make.page(crawl, 0, 0, "a"));
-    }
-
-    static void promise11Refusals() {
-        Politecrawl crawl = Make.onePage();
-        String before = Make.stateOf(crawl);
-        for (int host : new int[] {-1, 6, LEAST, MOST}) {
-            Check.throwsIndex("find(" + host + ", 0)", () -> crawl.find(host, 0));
-            Check.throwsIndex("find(" + host + ", 10)", () -> crawl.find(host, 10));
-        }
-        for (int rank : new int[] {-1, 10, LEAST, MOST}) {
-            Check.throwsArgument("find(0, " + rank + ")", () -> crawl.find(0, rank));
-            Check.throwsArgument("find(1, " + rank + ")", () -> crawl.find(1, rank));
-        }
-        Check.holds("nothing is changed", before.equals(Make.stateOf(crawl)));
-    }
-
     static void promise12SetRankAnswersTheRankBefore() {
         Politecrawl crawl = Make.onePage();
         Make.page(crawl, 0, 0, "a/a/a");
@@ -116,18 +87,6 @@ final class PageTest {
         Check.due("next", 17, crawl.next());
         crawl.setRank(4, 9);
         Check.due("next", 4, crawl.next());
-    }
-
-    static void promise12Refusals() {
-        Politecrawl crawl = Make.onePage();
-        for (int page : new int[] {-1, 1, 29, 30, LEAST, MOST}) {
-            Check.throwsIndex("setRank(" + page + ", 0)", () -> crawl.setRank(page, 0));
-            Check.throwsIndex("setRank(" + page + ", 10)", () -> crawl.setRank(page, 10));
-        }
-        for (int rank : new int[] {-1, 10, LEAST, MOST}) {
-            Check.throwsArgument("setRank(0, " + rank + ")", () -> crawl.setRank(0, rank));
-        }
-        Check.due("setRank", 5, crawl.setRank(0, 5));
     }
 
     static void promise13PagesCountsGoneAndLostOnes() {
@@ -166,14 +125,6 @@ final class PageTest {
         Check.due("gone", Politecrawl.NONE, crawl.dueAt(0));
     }
 
-    static void promise14LostPageIsNeverDue() {
-        Politecrawl crawl = new Politecrawl();
-        Make.page(crawl, 0, 9, "b/a/a/a");
-        Check.due("dueAt", Politecrawl.NONE, crawl.dueAt(0));
-        crawl.pass(1000);
-        Check.due("dueAt", Politecrawl.NONE, crawl.dueAt(0));
-    }
-
     static void promise15And16VisitsAndChanges() {
         Politecrawl crawl = Make.onePage();
         int[] outcomes = {Politecrawl.UNCHANGED, Politecrawl.CHANGED, Politecrawl.FAILED, Politecrawl.CHANGED,
@@ -197,42 +148,6 @@ final class PageTest {
         }
     }
 
-    static void promises14To17Refusals() {
-        Politecrawl crawl = Make.onePage();
-        for (int page : new int[] {-1, 1, 29, 30, 31, LEAST, MOST}) {
-            Check.throwsIndex("dueAt(" + page + ")", () -> crawl.dueAt(page));
-            Check.throwsIndex("visits(" + page + ")", () -> crawl.visits(page));
-            Check.throwsIndex("changes(" + page + ")", () -> crawl.changes(page));
-            Check.throwsIndex("mayVisit(" + page + ")", () -> crawl.mayVisit(page));
-        }
-        Politecrawl full = Make.allPages();
-        Check.throwsIndex("dueAt(30)", () -> full.dueAt(30));
-        Check.throwsIndex("visits(30)", () -> full.visits(30));
-        Check.throwsIndex("changes(30)", () -> full.changes(30));
-        Check.throwsIndex("mayVisit(30)", () -> full.mayVisit(30));
-        Check.holds("mayVisit(29)", full.mayVisit(29));
-    }
-
-    static void promise17NeitherGoneNorLost() {
-        Politecrawl crawl = Make.onePage();
-        Make.page(crawl, 1, 9, "a/a/a");
-        Check.holds("mayVisit", crawl.mayVisit(0));
-        Check.fails("mayVisit a lost one", crawl.mayVisit(1));
-        crawl.visit(0, Politecrawl.GONE);
-        crawl.pass(1000);
-        Check.fails("mayVisit a gone one", crawl.mayVisit(0));
-        Check.fails("mayVisit a lost one", crawl.mayVisit(1));
-    }
-
-    static void promise17DueToTheTick() {
-        Politecrawl crawl = Make.onePage();
-        crawl.visit(0, Politecrawl.UNCHANGED);
-        Make.passTo(crawl, 29);
-        Check.fails("mayVisit at 29", crawl.mayVisit(0));
-        crawl.pass(1);
-        Check.holds("mayVisit at 30", crawl.mayVisit(0));
-    }
-
     static void promise17TheHostRests() {
         Politecrawl crawl = Make.onePage();
         Make.page(crawl, 0, 0, "b");
@@ -244,16 +159,5 @@ final class PageTest {
         Check.fails("mayVisit at 4", crawl.mayVisit(1));
         crawl.pass(1);
         Check.holds("mayVisit at 5", crawl.mayVisit(1));
-    }
-
-    static void promise17TheBudgetIsUsedUp() {
-        Politecrawl crawl = Make.allPages();
-        crawl.setBudget(1);
-        crawl.visit(0, Politecrawl.GONE);
-        Check.fails("mayVisit", crawl.mayVisit(1));
-        crawl.pass(99);
-        Check.fails("mayVisit at 99", crawl.mayVisit(1));
-        crawl.pass(1);
-        Check.holds("mayVisit at 100", crawl.mayVisit(1));
     }
 }

@@ -1,21 +1,12 @@
 /** Promise 25: spreading. */
 final class ShareTest {
-    private static final int LEAST = Integer.MIN_VALUE;
-    private static final int MOST = Integer.MAX_VALUE;
-
     private ShareTest() {
-    }
-
-    private static void sharesAre(Politecrawl crawl, int visits, int... due) {
-        for (int page = 0; page < due.length; page++) {
-            Check.due("share(" + page + ", " + visits + ")", due[page], crawl.share(page, visits));
-        }
     }
 
     static void promise25OnePageGetsAll() {
         Politecrawl crawl = Make.onePage();
         for (int visits = 0; visits <= 100; visits++) {
-            sharesAre(crawl, visits, visits);
+            Check.sharesAre(crawl, visits, visits);
         }
     }
 
@@ -24,12 +15,12 @@ final class ShareTest {
         Make.page(crawl, 5, 4, "a");
         Make.page(crawl, 0, 4, "b");
         Make.page(crawl, 3, 4, "c");
-        sharesAre(crawl, 0, 0, 0, 0);
-        sharesAre(crawl, 1, 1, 0, 0);
-        sharesAre(crawl, 2, 1, 1, 0);
-        sharesAre(crawl, 3, 1, 1, 1);
-        sharesAre(crawl, 4, 2, 1, 1);
-        sharesAre(crawl, 100, 34, 33, 33);
+        Check.sharesAre(crawl, 0, 0, 0, 0);
+        Check.sharesAre(crawl, 1, 1, 0, 0);
+        Check.sharesAre(crawl, 2, 1, 1, 0);
+        Check.sharesAre(crawl, 3, 1, 1, 1);
+        Check.sharesAre(crawl, 4, 2, 1, 1);
+        Check.sharesAre(crawl, 100, 34, 33, 33);
     }
 
     static void promise25HigherRanksGetMore() {
@@ -37,12 +28,12 @@ final class ShareTest {
         Make.page(crawl, 0, 0, "a");
         Make.page(crawl, 0, 9, "b");
         // What each visit adds is 1/2, 1/6 .. for page 0 and 10/2, 10/6, 10/12, 10/20, 10/30 .. for page 1.
-        sharesAre(crawl, 1, 0, 1);
-        sharesAre(crawl, 3, 0, 3);
+        Check.sharesAre(crawl, 1, 0, 1);
+        Check.sharesAre(crawl, 3, 0, 3);
         // The fourth of page 1 adds 10/20, the first of page 0 as much: the lowest page goes first.
-        sharesAre(crawl, 4, 1, 3);
-        sharesAre(crawl, 5, 1, 4);
-        sharesAre(crawl, 6, 1, 5);
+        Check.sharesAre(crawl, 4, 1, 3);
+        Check.sharesAre(crawl, 5, 1, 4);
+        Check.sharesAre(crawl, 6, 1, 5);
     }
 
     static void promise25ChangesCount() {
@@ -51,23 +42,12 @@ final class ShareTest {
         Make.page(crawl, 1, 2, "b");
         crawl.visit(0, Politecrawl.CHANGED);
         // What each visit adds, times 1/3: 2/6, 2/12, 2/20, 2/30 for page 0, and 1/2, 1/6, 1/12, 1/20 for page 1.
-        sharesAre(crawl, 1, 0, 1);
-        sharesAre(crawl, 2, 1, 1);
-        sharesAre(crawl, 3, 2, 1);
-        sharesAre(crawl, 4, 2, 2);
-        sharesAre(crawl, 5, 3, 2);
-        sharesAre(crawl, 6, 3, 3);
-    }
-
-    static void promise25GoneAndLostPagesGetNone() {
-        Politecrawl crawl = Make.onePage();
-        Make.page(crawl, 1, 9, "a/a/a");
-        Make.page(crawl, 2, 9, "b");
-        sharesAre(crawl, 1, 0, 0, 1);
-        crawl.visit(2, Politecrawl.GONE);
-        sharesAre(crawl, 100, 100, 0, 0);
-        crawl.visit(0, Politecrawl.GONE);
-        sharesAre(crawl, 100, 0, 0, 0);
+        Check.sharesAre(crawl, 1, 0, 1);
+        Check.sharesAre(crawl, 2, 1, 1);
+        Check.sharesAre(crawl, 3, 2, 1);
+        Check.sharesAre(crawl, 4, 2, 2);
+        Check.sharesAre(crawl, 5, 3, 2);
+        Check.sharesAre(crawl, 6, 3, 3);
     }
 
     static void promise25NeitherDueNorRestNorBudgetCounts() {
@@ -75,7 +55,7 @@ final class ShareTest {
         Make.page(crawl, 1, 5, "b");
         crawl.setBudget(1);
         crawl.visit(0, Politecrawl.FAILED);
-        sharesAre(crawl, 7, 4, 3);
+        Check.sharesAre(crawl, 7, 4, 3);
     }
 
     static void promise25SharesAddUp() {
@@ -97,17 +77,5 @@ final class ShareTest {
         Check.due("share", before, crawl.share(9, 50));
         Check.due("visits", 0, crawl.visits(9));
         Check.due("budgetLeft", 20, crawl.budgetLeft());
-    }
-
-    static void promise25Refusals() {
-        Politecrawl crawl = Make.onePage();
-        for (int page : new int[] {-1, 1, 30, LEAST, MOST}) {
-            Check.throwsIndex("share(" + page + ", 0)", () -> crawl.share(page, 0));
-            Check.throwsIndex("share(" + page + ", 101)", () -> crawl.share(page, 101));
-        }
-        for (int visits : new int[] {-1, 101, LEAST, MOST}) {
-            Check.throwsArgument("share(0, " + visits + ")", () -> crawl.share(0, visits));
-        }
-        Check.due("share", 100, crawl.share(0, 100));
     }
 }

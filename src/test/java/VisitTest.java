@@ -1,8 +1,5 @@
 /** Promises 18 to 24: visits and ticks. */
 final class VisitTest {
-    private static final int LEAST = Integer.MIN_VALUE;
-    private static final int MOST = Integer.MAX_VALUE;
-
     private VisitTest() {
     }
 
@@ -97,20 +94,6 @@ final class VisitTest {
         Check.due("budgetLeft", 16, crawl.budgetLeft());
     }
 
-    static void promise20ThePowerIsFiveAtTheMost() {
-        Politecrawl crawl = Make.onePage();
-        crawl.setRest(0, 100);
-        int[] rests = {200, 400, 800, 1600, 3200, 3200, 3200};
-        for (int rest : rests) {
-            Make.passTo(crawl, Math.max(crawl.dueAt(0), crawl.openFrom(0)));
-            Check.due("visit", crawl.now() + rest, crawl.visit(0, Politecrawl.FAILED));
-            Check.due("dueAt", crawl.now() + 10, crawl.dueAt(0));
-        }
-        Check.due("failures", 7, crawl.failures(0));
-        Make.passTo(crawl, crawl.openFrom(0));
-        Check.due("visit", crawl.now() + 100, crawl.visit(0, Politecrawl.UNCHANGED));
-    }
-
     static void promise20GoneEndsFailures() {
         Politecrawl crawl = Make.onePage();
         crawl.visit(0, Politecrawl.FAILED);
@@ -122,72 +105,12 @@ final class VisitTest {
         Check.throwsState("visit a gone one", () -> crawl.visit(0, Politecrawl.UNCHANGED));
     }
 
-    static void promise20Refusals() {
-        Politecrawl crawl = Make.onePage();
-        Make.page(crawl, 1, 5, "a/a/a");
-        Make.page(crawl, 0, 5, "b");
-        crawl.visit(0, Politecrawl.CHANGED);
-        String before = Make.stateOf(crawl);
-        for (int page : new int[] {-1, 3, 30, LEAST, MOST}) {
-            Check.throwsIndex("visit(" + page + ", 0)", () -> crawl.visit(page, 0));
-            Check.throwsIndex("visit(" + page + ", 4)", () -> crawl.visit(page, 4));
-        }
-        for (int outcome : new int[] {-1, 4, LEAST, MOST}) {
-            for (int page = 0; page < 3; page++) {
-                int visited = page;
-                Check.throwsArgument("visit(" + page + ", " + outcome + ")", () -> crawl.visit(visited, outcome));
-            }
-        }
-        for (int outcome = 0; outcome < 4; outcome++) {
-            int made = outcome;
-            Check.throwsState("visit one not due", () -> crawl.visit(0, made));
-            Check.throwsState("visit a lost one", () -> crawl.visit(1, made));
-            Check.throwsState("visit one whose host rests", () -> crawl.visit(2, made));
-        }
-        Check.holds("nothing is changed", before.equals(Make.stateOf(crawl)));
-    }
-
-    static void promise20NoBudgetNoVisit() {
-        Politecrawl crawl = Make.allPages();
-        crawl.setBudget(2);
-        crawl.visit(0, Politecrawl.FAILED);
-        crawl.visit(1, Politecrawl.GONE);
-        String before = Make.stateOf(crawl);
-        Check.throwsState("visit", () -> crawl.visit(2, Politecrawl.UNCHANGED));
-        Check.holds("nothing is changed", before.equals(Make.stateOf(crawl)));
-    }
-
     static void promise21And22TicksPass() {
         Politecrawl crawl = new Politecrawl();
         Check.due("pass", 1, crawl.pass(1));
         Check.due("now", 1, crawl.now());
         Check.due("pass", 1001, crawl.pass(1000));
         Check.due("now", 1001, crawl.now());
-    }
-
-    static void promise21EndsAtTheLastTick() {
-        Politecrawl crawl = Make.onePage();
-        Make.passTo(crawl, 99999);
-        Check.throwsState("pass(2)", () -> crawl.pass(2));
-        Check.throwsState("pass(1000)", () -> crawl.pass(1000));
-        Check.throwsArgument("pass(1001) comes first", () -> crawl.pass(1001));
-        Check.due("now", 99999, crawl.now());
-        Check.due("pass", 100000, crawl.pass(1));
-        Check.throwsState("pass(1)", () -> crawl.pass(1));
-        Check.throwsArgument("pass(0) comes first", () -> crawl.pass(0));
-        Check.due("now", 100000, crawl.now());
-        Check.due("visit", 100010, crawl.visit(0, Politecrawl.FAILED));
-        Check.due("dueAt", 100010, crawl.dueAt(0));
-    }
-
-    static void promise21Refusals() {
-        Politecrawl crawl = Make.onePage();
-        crawl.visit(0, Politecrawl.UNCHANGED);
-        String before = Make.stateOf(crawl);
-        for (int ticks : new int[] {0, -1, 1001, LEAST, MOST}) {
-            Check.throwsArgument("pass(" + ticks + ")", () -> crawl.pass(ticks));
-        }
-        Check.holds("nothing is changed", before.equals(Make.stateOf(crawl)));
     }
 
     static void promise23BudgetLeftFollowsTheSpans() {
@@ -221,17 +144,6 @@ final class VisitTest {
         Check.throwsState("visit", () -> crawl.visit(0, Politecrawl.UNCHANGED));
         Check.throwsArgument("visit", () -> crawl.visit(0, 4));
         Check.due("budgetLeft", 19, crawl.budgetLeft());
-    }
-
-    static void promise24NoneToWaitFor() {
-        Politecrawl crawl = new Politecrawl();
-        Check.due("waiting without pages", Politecrawl.NONE, crawl.waiting());
-        Make.page(crawl, 0, 0, "a/a/a");
-        Check.due("waiting for a lost one", Politecrawl.NONE, crawl.waiting());
-        Make.page(crawl, 0, 0, "a");
-        Check.due("waiting", 0, crawl.waiting());
-        crawl.visit(1, Politecrawl.GONE);
-        Check.due("waiting for a gone one", Politecrawl.NONE, crawl.waiting());
     }
 
     static void promise24WaitsForThePageAndItsHost() {
@@ -292,15 +204,5 @@ final class VisitTest {
         crawl.pass(300);
         crawl.visit(0, Politecrawl.FAILED);
         Check.due("waiting", 200, crawl.waiting());
-    }
-
-    static void promise24MayEndAboveTheLastTick() {
-        Politecrawl crawl = Make.onePage();
-        Make.passTo(crawl, 100000);
-        crawl.setBudget(1);
-        crawl.visit(0, Politecrawl.UNCHANGED);
-        Check.due("waiting for the span", 100, crawl.waiting());
-        crawl.setBudget(2);
-        Check.due("waiting for the page", 30, crawl.waiting());
     }
 }
