@@ -4,9 +4,10 @@ import java.lang.reflect.Modifier;
 
 /** Runs each test method of each test class, says which fail, and ends with exit code 1 if one does. */
 public final class AllTests {
-    static final Class<?>[] TESTS = {FaceTest.class, AddressTest.class, AddressBoundsTest.class,
-        HostTest.class, HostBoundsTest.class, PageTest.class, PageBoundsTest.class, VisitTest.class,
-        VisitBoundsTest.class, ShareTest.class, ShareBoundsTest.class, RandomRunsTest.class};
+    static final Class<?>[] TESTS = {FaceTest.class, SentencesTest.class, WholeTest.class,
+        AddressTest.class, AddressBoundsTest.class, HostTest.class, HostBoundsTest.class, PageTest.class,
+        PageBoundsTest.class, VisitTest.class, VisitBoundsTest.class, ShareTest.class, ShareBoundsTest.class,
+        RandomRunsTest.class};
 
     private AllTests() {
     }
@@ -29,7 +30,7 @@ public final class AllTests {
         }
     }
 
-    private static boolean isTest(Method method) {
+    static boolean isTest(Method method) {
         boolean seen = Modifier.isStatic(method.getModifiers()) && !Modifier.isPrivate(method.getModifiers());
         return seen && !method.isSynthetic() && method.getParameterCount() == 0;
     }

@@ -10,9 +10,12 @@ import java.util.ArrayList;
 import java.util.Arrays;
 import java.util.List;
 import java.util.TreeSet;
+import java.util.regex.Matcher;
+import java.util.regex.Pattern;
 
 /** The public face and the rules of the language, as far as they can be looked up. */
 final class FaceTest {
+    private static final Path SOURCE = Path.of("src/main/java/Politecrawl.java");
     private static final String INDEX = "IndexOutOfBoundsException";
     private static final String ARGUMENT = "IllegalArgumentException";
     private static final String STATE = "IllegalStateException";
@@ -79,6 +82,43 @@ final class FaceTest {
         Check.holds("five constants", seen.size() == 5);
     }
 
+    /** The lines of the document's face stand in the source in their order, parameters' names and all. */
+    static void sourceSaysTheFaceAsTheDocumentDoes() throws IOException {
+        String source = Files.readString(SOURCE).replaceAll("\\s+", " ");
+        int lines = 0;
+        int behind = 0;
+        for (String line : Document.lines()) {
+            if (line.startsWith("public ") || line.startsWith("    public ")) {
+                String due = line.strip().replaceFirst("\\);$", ") {").replaceFirst("(Exception);$", "$1 {");
+                int at = source.indexOf(" " + due, behind);
+                Check.holds("in the source, in its place: " + due, at >= 0);
+                behind = at + due.length();
+                lines++;
+            }
+        }
+        Check.due("lines of the face", 28, lines);
+    }
+
+    /** "Ahead of the calls .. the interface says: ---- .." */
+    static void headingsStandAheadOfTheCalls() throws IOException {
+        List<String> due = new ArrayList<>();
+        for (String line : Document.lines()) {
+            if (line.startsWith("Ahead of the calls ")) {
+                due.add(line.substring(line.indexOf("----"), line.length() - 1));
+                Matcher call = Pattern.compile("`(\\w+)`").matcher(line);
+                while (call.find()) {
+                    due.add(call.group(1));
+                }
+            }
+        }
+        List<String> got = new ArrayList<>();
+        Matcher found = Pattern.compile("// (---- .*)|public \\w+ (\\w+)\\(").matcher(Files.readString(SOURCE));
+        while (found.find() && got.size() < due.size()) {
+            got.add(found.group(1) == null ? found.group(2) : found.group(1));
+        }
+        Check.holds("headings and calls are " + due + ", not " + got, due.size() == 29 && due.equals(got));
+    }
+
     static void everyPromiseHasATestOfItsBounds() {
         for (int promise = 1; promise <= 25; promise++) {
             String named = "promise" + promise + "[A-Z].*";
@@ -93,7 +133,7 @@ final class FaceTest {
     }
 
     static void sourceKeepsToTheLanguage() throws IOException {
-        String source = Files.readString(Path.of("src/main/java/Politecrawl.java"));
+        String source = Files.readString(SOURCE);
         Check.fails("a package line", source.contains("package "));
         for (String word : new String[] {"->", "::", "catch", "finally", "synchronized", "assert ", "import ", "Exact",
             "equals(", "hashCode", "toString", "float", "double", "System.", "Object", "static {", "throws Runtime"}) {

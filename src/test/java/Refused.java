@@ -74,14 +74,7 @@ final class Refused {
     }
 
     private Refused goesOnAsWithout(String name, Politecrawl crawl) {
-        List<String> got = Story.of(crawl);
-        for (int i = 0; i < due.size(); i++) {
-            String line = i < got.size() ? got.get(i) : "nothing";
-            if (!due.get(i).equals(line)) {
-                throw new AssertionError("behind the refused " + name + ": " + line + ", due is " + due.get(i));
-            }
-        }
-        Check.due("answers behind the refused " + name, due.size(), got.size());
+        Story.same("behind the refused " + name, due, Story.of(crawl));
         return this;
     }
 }

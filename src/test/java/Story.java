@@ -34,6 +34,17 @@ final class Story {
         return story.lines;
     }
 
+    /** Fails where two stories part. */
+    static void same(String where, List<String> due, List<String> got) {
+        for (int i = 0; i < due.size(); i++) {
+            String line = i < got.size() ? got.get(i) : "nothing";
+            if (!due.get(i).equals(line)) {
+                throw new AssertionError(where + ": " + line + ", due is " + due.get(i));
+            }
+        }
+        Check.due("lines told " + where, due.size(), got.size());
+    }
+
     private int tell(String call, IntSupplier made) {
         int answer = 0;
         try {

@@ -80,23 +80,33 @@ final class VisitBoundsTest {
         ranksThenNumbersSettleIt(Politecrawl::next, 5);
     }
 
-    /** "Returns the next page, found among the first ones of each host": the last page of the last host, too. */
-    static void promise18EachOfThirtyPages() {
+    /** Each page of thirty is the next one once: the last page of the last host, too. */
+    private static void eachOfThirtyPages(ToIntFunction<Politecrawl> next) {
         for (int page = 0; page < 30; page++) {
             Politecrawl crawl = Make.allPages();
             crawl.pass(9);
-            Check.due("next", 9, crawl.next());
+            Check.due("next", 9, next.applyAsInt(crawl));
             crawl.setRank(9, 0);
             crawl.setRank(19, 0);
             crawl.setRank(29, 0);
             crawl.setRank(page, 9);
-            Check.due("next", page, crawl.next());
+            Check.due("next", page, next.applyAsInt(crawl));
         }
+    }
+
+    /** "Returns the next page, found among the first ones of each host" */
+    static void promise18EachOfThirtyPages() {
+        eachOfThirtyPages(Politecrawl::next);
     }
 
     /** "Returns its number; NONE if no page may be visited now." */
     static void promise19NoneIfNoPageMayBeVisited() {
         noneIfNoPageMayBeVisited(Politecrawl::nextByScan);
+    }
+
+    /** "Returns the same, found by going through all pages." */
+    static void promise19EachOfThirtyPages() {
+        eachOfThirtyPages(Politecrawl::nextByScan);
     }
 
     /** "Returns the same": the one with the greatest pressing. */
