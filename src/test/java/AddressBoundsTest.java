@@ -209,6 +209,19 @@ final class AddressBoundsTest {
         Check.fails("another first letter", Make.typed("c" + "bcdef/hij/".repeat(3).substring(1)).isTrap());
     }
 
+    /** "[..] some row [..] comes in it three times": with another letter at any one place it comes but twice. */
+    static void promise5EachLetterOfARowCounts() {
+        for (String trap : new String[] {"/bcdefghij".repeat(3), "bcdef/hij/".repeat(3), "/bc/ef/hij".repeat(3)}) {
+            Check.holds(trap, Make.typed(trap).isTrap());
+            for (int i = 0; i < trap.length(); i++) {
+                if (trap.charAt(i) != '/') {
+                    String other = trap.substring(0, i) + "x" + trap.substring(i + 1);
+                    Check.fails(other, Make.typed(other).isTrap());
+                }
+            }
+        }
+    }
+
     /** "Tells whether the address in the buffer is a trap": the empty one, and those of slashes, have no segments. */
     static void promise5WithoutSegmentsThereIsNoTrap() {
         Check.fails("empty", new Politecrawl().isTrap());

@@ -141,6 +141,49 @@ final class FaceTest {
         }
     }
 
+    /** Rules 1, 2, 5 and 11: classes inside are static and not public, what is static is final, and all is small. */
+    static void classesKeepToTheLanguage() {
+        List<Class<?>> classes = new ArrayList<>(List.of(Politecrawl.class.getDeclaredClasses()));
+        for (Class<?> inside : classes) {
+            int modifiers = inside.getModifiers();
+            Check.holds(inside + " is static", Modifier.isStatic(modifiers));
+            Check.fails(inside + " is seen", Modifier.isPublic(modifiers) || Modifier.isProtected(modifiers));
+        }
+        classes.add(Politecrawl.class);
+        Check.holds("at most twelve classes", classes.size() <= 12);
+        for (Class<?> each : classes) {
+            int fields = 0;
+            for (Field field : each.getDeclaredFields()) {
+                int modifiers = field.getModifiers();
+                Check.holds(field + " is final", !Modifier.isStatic(modifiers) || Modifier.isFinal(modifiers));
+                fields += Modifier.isStatic(modifiers) ? 0 : 1;
+            }
+            Check.holds("at most twenty fields in " + each, fields <= 20);
+            for (Method method : each.getDeclaredMethods()) {
+                Check.holds("at most seven parameters of " + method, method.getParameterCount() <= 7);
+            }
+        }
+    }
+
+    /** Rule 11: "Methods stay short (some sixty lines)". */
+    static void methodsStayShort() throws IOException {
+        int from = -1;
+        String end = "";
+        List<String> lines = Files.readAllLines(SOURCE);
+        for (int i = 0; i < lines.size(); i++) {
+            String line = lines.get(i);
+            if (line.matches(" {4,8}[a-zA-Z][^;=]*\\(.*") && !line.contains(" class ") && from < 0) {
+                from = i;
+                end = line.replaceAll("\\S.*", "") + "}";
+            }
+            if (from >= 0 && line.equals(end)) {
+                Check.holds("at most sixty lines from line " + (from + 1), i - from < 60);
+                from = -1;
+            }
+        }
+        Check.due("a method that goes on", -1, from);
+    }
+
     private static String signature(String type, String name, Executable member) {
         StringBuilder text = new StringBuilder(type).append(name).append('(');
         for (Class<?> parameter : member.getParameterTypes()) {

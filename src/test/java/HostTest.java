@@ -68,6 +68,10 @@ final class HostTest {
         Check.due("setBudget", 1, crawl.setBudget(100));
         Check.due("setBudget", 100, crawl.setBudget(50));
         Check.due("budgetLeft", 50, crawl.budgetLeft());
+        crawl.find(0, 0);
+        crawl.visit(0, Politecrawl.UNCHANGED);
+        Check.due("setBudget behind a visit", 50, crawl.setBudget(7));
+        Check.due("setBudget behind a visit", 7, crawl.setBudget(50));
     }
 
     static void promise9FailuresGrowAndEnd() {

@@ -55,12 +55,12 @@ final class Make {
 
     /**
      * A scheduler in the middle of its work at tick 133: nothing is as at first, pages of all kinds are there, and the
-     * buffer still holds "x/yz", the address of page 6.
+     * buffer still holds "x/yz", the address of page 6. The longest pace is such that a first visit already tells it.
      */
     static Politecrawl busy() {
         Politecrawl crawl = new Politecrawl();
         crawl.setRest(2, 9);
-        crawl.setPaces(7, 40);
+        crawl.setPaces(7, 20);
         crawl.setBudget(6);
         page(crawl, 0, 5, "a");
         page(crawl, 1, 9, "a");

@@ -43,6 +43,10 @@ final class PageTest {
         Check.due("find", 0, crawl.find(0, 9));
         Check.due("rank", 5, crawl.setRank(0, 5));
         Check.due("dueAt", 0, crawl.dueAt(0));
+        crawl.visit(0, Politecrawl.UNCHANGED);
+        Check.due("find one that is not due", 0, crawl.find(0, 9));
+        Check.due("dueAt", 33, crawl.dueAt(0));
+        crawl.pass(30);
         crawl.visit(0, Politecrawl.GONE);
         Check.due("find a gone one", 0, crawl.find(0, 0));
         Check.due("rank", 5, crawl.setRank(0, 5));

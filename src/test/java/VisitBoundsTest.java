@@ -176,6 +176,8 @@ final class VisitBoundsTest {
     /** "[..] if it may not be visited now": its host may be, but not at the tick before. */
     static void promise20NotBeforeTheHostHasRested() {
         refusedForEachOutcome(() -> openFrom5(4), 1);
+        // Its host has a failure, which a refused visit neither ends nor doubles.
+        refusedForEachOutcome(Make::busy, 5);
         Check.due("visit", 10, openFrom5(5).visit(1, Politecrawl.UNCHANGED));
     }
 
@@ -439,13 +441,24 @@ final class VisitBoundsTest {
 
     /** "[..] each span of 100 ticks": passing over one span or several, to each end of another, gives all again. */
     static void promise23PassingOverSpans() {
-        int[] ticks = {1, 99, 100, 101, 199, 200, 900, 999, 1000};
-        int[] lefts = {19, 19, 20, 20, 20, 20, 20, 20, 20};
-        for (int i = 0; i < ticks.length; i++) {
+        for (int ticks = 1; ticks <= 1000; ticks++) {
             Politecrawl crawl = Make.onePage();
             crawl.visit(0, Politecrawl.UNCHANGED);
-            crawl.pass(ticks[i]);
-            Check.due("budgetLeft at " + crawl.now(), lefts[i], crawl.budgetLeft());
+            crawl.pass(ticks);
+            Check.due("budgetLeft at " + crawl.now(), ticks < 100 ? 19 : 20, crawl.budgetLeft());
+        }
+    }
+
+    /** "[..] that may be made in each span": what was used above a budget set lower is not taken from the next span. */
+    static void promise23TheNextSpanHasAllOfItsBudget() {
+        for (int budget = 1; budget <= 5; budget++) {
+            Politecrawl crawl = used(5, 20);
+            crawl.setBudget(budget);
+            Check.due("budgetLeft", 0, crawl.budgetLeft());
+            crawl.pass(100);
+            Check.due("budgetLeft at 100", budget, crawl.budgetLeft());
+            crawl.setBudget(20);
+            Check.due("budgetLeft of 20", 20, crawl.budgetLeft());
         }
     }
 

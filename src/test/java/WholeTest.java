@@ -67,7 +67,8 @@ final class WholeTest {
             crawl.find(host, 0);
         }
         int[] made = new int[4];
-        while (crawl.now() < 400) {
+        // A step is five calls at the most, so that all stay within an object's 512 calls.
+        for (int step = 0; step < 90 && crawl.now() < 400; step++) {
             if (crawl.waiting() > 0) {
                 crawl.pass(crawl.waiting());
             } else {
@@ -244,12 +245,19 @@ final class WholeTest {
         Check.due("nextByScan", 0, crawl.nextByScan());
     }
 
-    private static void changesNothing(String name, Refused.Call... calls) {
+    private static Politecrawl busyBehind(Refused.Call... calls) {
         Politecrawl crawl = Make.busy();
         for (Refused.Call call : calls) {
             call.on(crawl);
         }
-        Story.same("behind " + name, Story.of(Make.busy()), Story.of(crawl));
+        return crawl;
+    }
+
+    /** Looked at twice, for what one look asks first, another call may have hidden from the other. */
+    private static void changesNothing(String name, Refused.Call... calls) {
+        Story.same("behind " + name, Story.of(Make.busy()), Story.of(busyBehind(calls)));
+        boolean same = stateBut(Make.busy(), -1, -1).equals(stateBut(busyBehind(calls), -1, -1));
+        Check.holds("the same behind " + name, same);
     }
 
     /** "Nothing is promised beyond the answers and state changes described above": calls that ask change nothing. */
@@ -259,6 +267,8 @@ final class WholeTest {
         changesNothing("pages", Politecrawl::pages);
         changesNothing("next", Politecrawl::next);
         changesNothing("nextByScan", Politecrawl::nextByScan);
+        changesNothing("next of a low rank", crawl -> crawl.setRank(1, 0), Politecrawl::next,
+            Politecrawl::nextByScan, crawl -> crawl.setRank(1, 9));
         changesNothing("now", Politecrawl::now);
         changesNothing("budgetLeft", Politecrawl::budgetLeft);
         changesNothing("waiting", Politecrawl::waiting);
@@ -281,8 +291,9 @@ final class WholeTest {
     /** "[..] state changes described above": what is set back, or typed again, is as it was, and so is all else. */
     static void settingBackLeavesAllAsItWas() {
         changesNothing("setRest", crawl -> crawl.setRest(2, 50), crawl -> crawl.setRest(2, 9));
-        changesNothing("setPaces", crawl -> crawl.setPaces(1000, 5000), crawl -> crawl.setPaces(7, 40));
-        changesNothing("setBudget", crawl -> crawl.setBudget(1), crawl -> crawl.setBudget(6));
+        changesNothing("setPaces", crawl -> crawl.setPaces(1000, 5000), crawl -> crawl.setPaces(7, 20));
+        changesNothing("setBudget", crawl -> crawl.setBudget(1), crawl -> crawl.setBudget(100),
+            crawl -> crawl.setBudget(6));
         changesNothing("setRank", crawl -> crawl.setRank(6, 0), crawl -> crawl.setRank(6, 6));
         changesNothing("type", Politecrawl::clearAddress, crawl -> crawl.type('x'), crawl -> crawl.type('/'),
             crawl -> crawl.type('y'), crawl -> crawl.type('z'));
@@ -306,15 +317,20 @@ final class WholeTest {
         return state;
     }
 
-    /** "Visits a page": no other page, no other host; neither rests nor ranks nor ticks. */
+    /** "Visits a page": no other page, of its host or another, and no other host; neither rests nor ranks nor ticks. */
     static void aVisitChangesItsPageAndItsHostAlone() {
         List<Integer> due = stateBut(Make.busy(), 6, 4);
+        List<Integer> dueOfAll = stateBut(Make.allPages(), 13, 1);
         for (int outcome = 0; outcome <= 3; outcome++) {
             Politecrawl crawl = Make.busy();
             crawl.visit(6, outcome);
             Check.due("now behind visit", 133, crawl.now());
             Check.due("the rank behind visit", 6, crawl.setRank(6, 6));
             Check.holds("the same behind visit with " + outcome, due.equals(stateBut(crawl, 6, 4)));
+            Politecrawl all = Make.allPages();
+            all.visit(13, outcome);
+            Check.due("the rank behind visit", 3, all.setRank(13, 3));
+            Check.holds("the same of all pages behind " + outcome, dueOfAll.equals(stateBut(all, 13, 1)));
         }
     }
 
